@@ -1419,7 +1419,7 @@ public final class StockYard {
             }
             Way way = ways[lot * MOST_PLANNED + pen];
             // A pen of a plan has no lot, so the lot is never there already: no alleys, no way.
-            if (way.length == 0) {
+            if (way.length == 0 || now + way.minutes >= soonest) {
                 return;
             }
             int begin = yard.firstFree(way, now);
