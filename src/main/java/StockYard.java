@@ -57,6 +57,8 @@ public final class StockYard {
     private static final int LONGEST_WAY = MOST_PLACES - 1;
     // Above every sum of minutes, and small enough that three of them don't wrap around.
     private static final int FAR = 1000000;
+    // A minute behind all that a run can come to.
+    private static final int NEVER = 2000000000;
     // Each round of a search for a free minute passes one taken stretch; there are 20 * 24 at most.
     private static final int MOST_ROUNDS = 10000;
 
@@ -875,7 +877,7 @@ public final class StockYard {
 
         private int meets(int minute) {
             for (int i = 0; i < size && i < taken.length; i++) {
-                if (Math.abs(taken[i] - minute) < minutes) {
+                if (minute < taken[i] + minutes && taken[i] < minute + minutes) {
                     return taken[i];
                 }
             }
@@ -1383,11 +1385,11 @@ public final class StockYard {
 
         boolean search(int minute) {
             now = minute;
-            soonest = Integer.MAX_VALUE;
+            soonest = NEVER;
             usedLots = 0;
             usedPens = 0;
             tell(0, minute);
-            return soonest != Integer.MAX_VALUE;
+            return soonest != NEVER;
         }
 
         int plannedLot(int i) {

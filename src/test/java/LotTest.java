@@ -8,6 +8,7 @@ public final class LotTest {
         looks();
         drives();
         drivesDoNotMeet();
+        manyDrivesByOneAlley();
         driveRefusals();
         watered();
         held();
@@ -170,6 +171,28 @@ public final class LotTest {
         Due.is(9, "from the pen, from 6 on: 9 .. 12 is taken", x.drive(1, 0), 12);
         x.run(7);
         Due.is(9, "back by the alley", x.drive(0, 3), 26);
+    }
+
+    private static void manyDrivesByOneAlley() {
+        StockYard x = Due.yard(0, 1, 3, 1);
+        x.alley(0, 1, 1);
+        x.alley(1, 3, 3);
+        x.alley(3, 2, 1);
+        x.lot(0, 0, 10100, 0, 0);
+        x.drive(0, 1);
+        x.run(1);
+        for (int i = 0; i < 60; i++) {
+            Due.is(9, "to and fro", x.drive(0, i % 2 == 0 ? 3 : 1), 3 * i + 4);
+            x.run(3);
+        }
+        int minute = x.count(0);
+        Due.is(9, "once more", x.drive(0, 3), minute + 3);
+        for (int i = 1; i < 6; i++) {
+            x.lot(0, 0, 10100, 0, 0);
+            Due.is(9, "one behind the other", x.drive(i, 2), minute + 4 + 3 * i);
+            x.run(1);
+        }
+        Due.is(9, "on their way", x.count(5), 5);
     }
 
     private static void driveRefusals() {

@@ -9,6 +9,7 @@ public final class SaleTest {
         money();
         offs();
         tests();
+        testOfPlaceZero();
         accounts();
         Due.end();
     }
@@ -221,6 +222,25 @@ public final class SaleTest {
         x.off(3, 99);
         Due.is(24, "one anew", x.test(3), 1);
         Due.is(24, "weight 1 at least", x.look(light, 12), 1);
+    }
+
+    private static void testOfPlaceZero() {
+        StockYard x = Due.yard(2, 0, 1);
+        x.alley(0, 1, 1);
+        x.alley(1, 2, 1);
+        x.lot(1, 0, 10100, 0, 0);
+        bring(x, 0, 2);
+        x.see(0, 0);
+        x.bid(0, 0, 100);
+        x.sell(0);
+        x.off(0, 5);
+        Due.is(24, "none yet", x.test(0), 0);
+        bring(x, 0, 0);
+        x.off(0, 5);
+        x.weigh(0);
+        Due.is(24, "one", x.test(0), 1);
+        x.off(0, 5);
+        Due.is(24, "none since", x.test(0), 0);
     }
 
     private static void accounts() {

@@ -6,6 +6,7 @@ public final class YardTest {
         alleys();
         ways();
         firstWayOfLikeOnes();
+        longestWay();
         Due.end();
     }
 
@@ -70,11 +71,13 @@ public final class YardTest {
         Due.is(5, "by(2, 0, 0)", x.by(2, 0, 0), 1);
         Due.is(5, "by(0, 3, 0)", x.by(0, 3, 0), StockYard.BEYOND);
         Due.is(5, "by(0, 4, 0)", x.by(0, 4, 0), StockYard.BEYOND);
+        Due.is(5, "by(4, 0, 0)", x.by(4, 0, 0), StockYard.BEYOND);
+        Due.is(5, "by(0, -1, 0)", x.by(0, -1, 0), StockYard.BEYOND);
         Due.is(5, "by(1, 1, 0)", x.by(1, 1, 0), StockYard.BEYOND);
         x.alley(2, 0, 19);
         Due.is(4, "way(0, 2) by the new one", x.way(0, 2), 19);
         Due.is(5, "by(0, 2, 0) by the new one", x.by(0, 2, 0), 3);
-        Due.is(36, "status(BEYOND)", x.status(StockYard.BEYOND), 7);
+        Due.is(36, "status(BEYOND)", x.status(StockYard.BEYOND), 9);
     }
 
     private static void firstWayOfLikeOnes() {
@@ -88,5 +91,21 @@ public final class YardTest {
         Due.is(5, "by(0, 3, 1)", x.by(0, 3, 1), 2);
         Due.is(5, "by(3, 0, 0) is another way back", x.by(3, 0, 0), 0);
         Due.is(5, "by(3, 0, 1)", x.by(3, 0, 1), 3);
+    }
+
+    private static void longestWay() {
+        StockYard x = Due.yard(0, 1, 1, 1, 1, 1, 1, 1, 1, 1, 1, 1, 1, 1);
+        for (int i = 0; i < 13; i++) {
+            x.alley(12 - i, 13 - i, 30);
+        }
+        Due.is(4, "way(0, 13)", x.way(0, 13), 390);
+        for (int i = 0; i < 13; i++) {
+            Due.is(5, "by(0, 13, " + i + ")", x.by(0, 13, i), 12 - i);
+        }
+        Due.is(5, "by(0, 13, 13)", x.by(0, 13, 13), StockYard.BEYOND);
+        x.lot(0, 0, 10100, 0, 0);
+        Due.is(9, "drive(0, 13)", x.drive(0, 13), 390);
+        x.lot(0, 0, 10100, 0, 0);
+        Due.is(9, "one alley behind the first", x.drive(1, 12), 390);
     }
 }
