@@ -559,6 +559,10 @@ public final class StockYard {
         return v >= least && v <= greatest;
     }
 
+    private static boolean inSet(int set, int i) {
+        return (set >>> i & 1) == 1;
+    }
+
     private static boolean isOwner(int owner) {
         return within(owner, 0, OWNERS - 1);
     }
@@ -664,7 +668,7 @@ public final class StockYard {
 
     private boolean arePens(int places) {
         for (int i = 0; i < yard.places; i++) {
-            if ((places >>> i & 1) == 1 && yard.kindOf(i) != PEN) {
+            if (inSet(places, i) && yard.kindOf(i) != PEN) {
                 return false;
             }
         }
@@ -673,7 +677,7 @@ public final class StockYard {
 
     private boolean mayAllBeDriven(int set) {
         for (int i = 0; i < lots.size(); i++) {
-            if ((set >>> i & 1) == 1 && !mayBeDriven(lots.get(i))) {
+            if (inSet(set, i) && !mayBeDriven(lots.get(i))) {
                 return false;
             }
         }
@@ -682,7 +686,7 @@ public final class StockYard {
 
     private boolean hasLotInOne(int pens) {
         for (int i = 0; i < yard.places; i++) {
-            if ((pens >>> i & 1) == 1 && hasLot(i)) {
+            if (inSet(pens, i) && hasLot(i)) {
                 return true;
             }
         }
@@ -692,12 +696,12 @@ public final class StockYard {
     private void readyPlanner(int set, int pens) {
         planner.clear();
         for (int i = 0; i < yard.places; i++) {
-            if ((pens >>> i & 1) == 1) {
+            if (inSet(pens, i)) {
                 planner.addPen(i);
             }
         }
         for (int i = 0; i < lots.size(); i++) {
-            if ((set >>> i & 1) == 1) {
+            if (inSet(set, i)) {
                 planner.addLot(i, lots.get(i).place);
             }
         }
@@ -1008,7 +1012,7 @@ public final class StockYard {
         }
 
         boolean wasSeenBy(int one) {
-            return isBuyer(one) && (seen >>> one & 1) == 1;
+            return isBuyer(one) && inSet(seen, one);
         }
 
         void show(int one) {
@@ -1408,7 +1412,7 @@ public final class StockYard {
             }
             for (int lot = 0; lot < lotCount; lot++) {
                 for (int pen = 0; pen < penCount; pen++) {
-                    if ((usedLots >>> lot & 1) == 0 && (usedPens >>> pen & 1) == 0) {
+                    if (!inSet(usedLots, lot) && !inSet(usedPens, pen)) {
                         tellOne(depth, last, lot, pen);
                     }
                 }

@@ -175,8 +175,8 @@ public final class LotTest {
 
     private static void manyDrivesByOneAlley() {
         StockYard x = Due.yard(0, 1, 3, 1);
-        x.alley(0, 1, 1);
         x.alley(1, 3, 3);
+        x.alley(0, 1, 1);
         x.alley(3, 2, 1);
         x.lot(0, 0, 10100, 0, 0);
         x.drive(0, 1);
