@@ -1,4 +1,5 @@
 import java.util.ArrayList;
+import java.util.Arrays;
 import java.util.List;
 
 /** What the tests share: answers that are due, and runs that several tests begin with. */
@@ -10,10 +11,26 @@ final class Due {
     }
 
     static void is(int promise, String call, long got, long want) {
+        is("promise " + promise, call, got, want);
+    }
+
+    static void is(String where, String call, long got, long want) {
         asked++;
         if (got != want) {
-            wrong.add("promise " + promise + ": " + call + " answered " + got + ", due is " + want);
+            wrong.add(where + ": " + call + " answered " + got + ", due is " + want);
         }
+    }
+
+    static void alike(String where, String what, long[] got, long[] want) {
+        asked++;
+        int at = Arrays.mismatch(got, want);
+        if (at >= 0) {
+            wrong.add(where + ": " + what + ", from number " + at + " on, is " + rest(got, at) + ", due is " + rest(want, at));
+        }
+    }
+
+    private static String rest(long[] row, int from) {
+        return Arrays.toString(Arrays.copyOfRange(row, from, Math.max(from, Math.min(row.length, from + 6))));
     }
 
     static void end() {

@@ -31,7 +31,8 @@ public final class LanguageTest {
             checkInner(inner);
         }
         checkText(Files.readAllLines(Path.of(args[0])));
-        checkRoom();
+        checkRoomOfPlans();
+        checkRoomOfRules();
         wrong.forEach(System.out::println);
         System.out.println(wrong.isEmpty() ? "the language is kept to" : wrong.size() + " things are not as told");
         if (!wrong.isEmpty()) {
@@ -127,9 +128,12 @@ public final class LanguageTest {
         }
     }
 
-    private static void checkRoom() {
-        com.sun.management.ThreadMXBean threads = (com.sun.management.ThreadMXBean) ManagementFactory.getThreadMXBean();
-        long before = threads.getCurrentThreadAllocatedBytes();
+    private static long roomTaken() {
+        return ((com.sun.management.ThreadMXBean) ManagementFactory.getThreadMXBean()).getCurrentThreadAllocatedBytes();
+    }
+
+    private static void checkRoomOfPlans() {
+        long before = roomTaken();
         StockYard x = new StockYard();
         for (int i = 0; i < 14; i++) {
             x.place(i < 6 ? 0 : 1);
@@ -144,9 +148,24 @@ public final class LanguageTest {
         for (int i = 0; i < 450; i++) {
             x.plan(15, 15 << 6);
         }
-        long bytes = threads.getCurrentThreadAllocatedBytes() - before;
-        if (bytes > 100000) {
-            wrong.add("a run took " + bytes + " bytes of room");
+        checkTaken("plans", roomTaken() - before);
+    }
+
+    private static void checkRoomOfRules() {
+        long before = roomTaken();
+        StockYard x = new StockYard();
+        for (int i = 0; i < 20; i++) {
+            x.feed(0x66656520, 4);
+        }
+        for (int i = 0; i < 490; i++) {
+            x.rule(0, 1);
+        }
+        checkTaken("rules", roomTaken() - before);
+    }
+
+    private static void checkTaken(String run, long bytes) {
+        if (bytes > 200000) {
+            wrong.add("a run of " + run + " took " + bytes + " bytes of room");
         }
     }
 }
