@@ -369,7 +369,7 @@ public final class CountEdgeTest {
             status NO = 3
             """, "tape '" + "x".repeat(80) + "'\n", "feed 0 1 = FULL\nstatus FULL = 1\n"
                 + "status MISSING = 3\nstatus BEYOND = 3\nstatus BELOW = 2\nstatus KIND = 2\nstatus COPY = 1");
-        Script.is("36: hundreds of refused calls", "run 0 = NO\n".repeat(300), "status NO = 300\nstatus 0 = NO\n"
-            + "status NO = 301\ncount 0 = 0");
+        Script.is("36: as many refused calls as an object is used for", "run 0 = NO\n".repeat(500), "status NO = 500\nstatus 0 = NO\n"
+            + "status NO = 501\ncount 0 = 0");
     }
 }
